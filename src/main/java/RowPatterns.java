@@ -1117,7 +1117,7 @@ public final class RowPatterns {
 
         private boolean number() {
             int factor = 1;
-            if (comes('-')) {
+            if (text.at(place) == '-') {
                 factor = -1;
                 place++;
             }

@@ -584,6 +584,11 @@ public final class PromisesTest {
         due("fits an empty one", x.fits(2, 2), 1);
         due("fewest none", x.spans(0, 0), 0);
         due("most two", x.spans(0, 1), 2);
+        Checks.pattern(x, "AB");
+        due("of one way", x.spans(0, 0), 2);
+        due("of one way", x.spans(1, 0), 2);
+        due("of one way", x.spans(1, 1), 2);
+        due("no row ahead of START", x.way(1, -1), -5);
     }
 
     private static String matches(RowPatterns x) {
@@ -804,6 +809,8 @@ public final class PromisesTest {
         due("all 0", x.get(0, 39), 0);
         due("empty", x.list(3, 0), 1);
         due("empty", x.put(3, 0, 1), -13);
+        due("nothing of nothing", x.move(3, 0, 3, 0, 0), 0);
+        due("something of nothing", x.move(3, 0, 0, 0, 1), -13);
         due("list", x.list(1, 5), 1);
         for (int i = 0; i < 5; i++) {
             x.put(1, i, i + 1);
@@ -845,6 +852,9 @@ public final class PromisesTest {
         due("judge without matches", x.judge(0, -9, 0, 0, 0), -5);
         due("judge without matches", x.judge(0, 99, 0, 0, 0), -5);
         due("run", x.run(), 2);
+        x.list(3, 0);
+        due("lay, no place at all", x.lay(3, 0, 0, 0, 0), -13);
+        due("judge, no place at all", x.judge(3, 0, 0, 0, 0), 100);
         due("lay letter", x.lay(0, 0, 27, 0, 0), -1);
         due("lay letter", x.lay(0, 0, -1, 0, 0), -1);
         due("lay column", x.lay(0, 0, 0, 2, 0), -1);
