@@ -2,7 +2,7 @@ import java.util.Random;
 
 /** Long rows of calls chosen by a fixed seed: the class answers as the model does. */
 public final class ModelTest {
-    private static final int OBJECTS = 2500, CALLS = 512;
+    private static final int OBJECTS = 3000, CALLS = 512, LONGEST = 122;
     private final Random chance;
     private final Texts texts;
     private RowPatterns x = new RowPatterns();
@@ -54,7 +54,8 @@ public final class ModelTest {
         if (below(3) > 0) {
             text(texts.pattern(), true);
         }
-        while (calls < CALLS) {
+        // A text of 120 bytes, told and read, is the longest row of calls at once.
+        while (calls <= CALLS - LONGEST) {
             call();
         }
     }
