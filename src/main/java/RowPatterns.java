@@ -429,7 +429,9 @@ public final class RowPatterns {
         // Parts and Conditions never change once they are read, so they are shared, not copied.
         void become(Situation other) {
             table.become(other.table);
-            System.arraycopy(other.conditions, 0, conditions, 0, LETTERS);
+            for (int letter = 0; letter < LETTERS; letter++) {
+                conditions[letter] = other.conditions[letter];
+            }
             parts = other.parts;
             matches.become(other.matches);
             mode = other.mode;

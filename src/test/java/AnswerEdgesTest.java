@@ -441,9 +441,16 @@ public final class AnswerEdgesTest {
         due("run", x.run(), 33);
         due("image", x.image(), 32);
         for (int i = 0; i < 32; i++) {
+            x.set(i, 1000, -1);
+        }
+        for (int i = 0; i < 32; i++) {
             x.drop();
         }
         due("undo", x.undo(), 32);
+        for (int i = 0; i < 31; i++) {
+            due("X", x.cell(i, 0), i);
+            due("Y", x.cell(i, 1), i);
+        }
         due("the last ROW", x.cell(31, 0), -999);
         due("the last ROW", x.cell(31, 1), 999);
         due("it is full", x.row(1, 1), -4);
@@ -517,6 +524,32 @@ public final class AnswerEdgesTest {
         due("run again", x.run(), 3);
         due("undo again", x.undo(), 3);
         due("they are there", x.label(2, 2), 0);
+        // Others in between, at the same places and of the same number, leave nothing of theirs.
+        Checks.pattern(x, "BC|$");
+        x.mode(1, 0);
+        due("others", x.run(), 3);
+        due("others", x.match(0, 1), 2);
+        due("others", x.match(2, 0), 3);
+        due("undo", x.undo(), 3);
+        for (int m = 0; m < 3; m++) {
+            due("START", x.match(m, 0), m);
+            due("how many ROWS", x.match(m, 1), 1);
+            due("bits", x.match(m, 3), 1);
+            due("in how many", x.covered(m), 1);
+            for (int row = 0; row < 3; row++) {
+                due("LETTER", x.label(m, row), row == m ? 0 : -5);
+            }
+        }
+        Checks.pattern(x, "A?");
+        due("as many as there can be of 3 ROWS", x.run(), 4);
+        due("image", x.image(), 3);
+        Checks.pattern(x, "ABC");
+        due("fewer", x.run(), 1);
+        due("undo", x.undo(), 3);
+        due("all of them", x.told(2), 4);
+        due("the last", x.match(3, 0), 3);
+        due("its ROWS", x.match(3, 1), 0);
+        due("the last but one", x.match(2, 1), 1);
     }
 
     private static void withoutAnImage() {

@@ -22,6 +22,7 @@ public final class ConditionEdgesTest {
         firstAndLastSoFar();
         sums();
         counts();
+        eachLetterSoFar();
         missing();
         missingOfSums();
         fromStartOn();
@@ -284,6 +285,13 @@ public final class ConditionEdgesTest {
         fault("A=+1<1", 2);
         fault("A=-x<1", 3);
         fault("A=1-<1", 3);
+        // The bytes beside the figures' own.
+        fault("A=/<1", 2);
+        fault("A=:<1", 2);
+        fault("A=1/<1", 3);
+        fault("A=1:<1", 3);
+        fault("A=x</", 4);
+        fault("A=x<9:", 5);
         good("A=1<9", 1);
         good("A=12<99", 1);
         good("A=123<999", 1);
@@ -427,6 +435,24 @@ public final class ConditionEdgesTest {
         due("from START on", x.first(30), 2);
         Checks.define(x, "A=cA=1");
         due("itself alone", x.first(31), 1);
+    }
+
+    private static void eachLetterSoFar() {
+        Checks.says("of the first or last ROW with that LETTER so far (itself, too);");
+        // Each LETTER is taken as itself, and as none of the others.
+        for (int i = 0; i < 26; i++) {
+            char one = (char) ('A' + i);
+            char other = (char) ('A' + (i + 1) % 26);
+            RowPatterns x = new RowPatterns();
+            x.row(7, -2);
+            x.row(8, -3);
+            Checks.pattern(x, "" + one + other);
+            Checks.define(x, other + "=c" + one + "=1&f" + one + "x=7&l" + one + "y=-2&s" + one + "x=7&s" + one + "y=-2");
+            due("the LETTER " + one + " ahead", x.first(0), 2);
+            Checks.define(x, other + "=c" + other + "=1&f" + other + "y=-3&l" + other + "x=8&s" + other + "y=-3");
+            due("the LETTER " + other + " itself", x.first(0), 2);
+            due("the LETTER " + other + " itself", x.holds((i + 1) % 26, 1), 1);
+        }
     }
 
     private static void missing() {

@@ -298,6 +298,15 @@ public final class PatternEdgesTest {
         fault("A{,}", 2);
         fault("A{,1}", 2);
         fault("A{-1}", 2);
+        // The bytes beside the figures' own.
+        fault("A{/}", 2);
+        fault("A{:}", 2);
+        fault("A{1/}", 3);
+        fault("A{1:}", 3);
+        fault("A{1,/}", 4);
+        fault("A{1,:}", 4);
+        fault("A{1,2:}", 5);
+        good("A{90,99}", 2);
         good("A{1}", 2);
         good("A{99}", 2);
         good("A{9,9}", 2);

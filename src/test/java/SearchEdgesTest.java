@@ -299,6 +299,14 @@ public final class SearchEdgesTest {
         Checks.define(x, "C=");
         takes(x, "(AB|A)(C|$)B", 0, "ABCB", 6);
         takes(x, "(AB|A)CD$", 1, "ACD", 9);
+        // The one that was chosen first is still left behind 70 others.
+        Checks.define(x, "B=x=99");
+        takes(x, "A??(B??){70}C$", 2, "AC", 1 + 141 + 2 + 70 + 2 + 141 + 2);
+        takes(x, "(A|C)(B??){70}C$", 2, "AC", 2 + 141 + 2);
+        takes(x, "(A|C)(B??){70}A$^", 2, "-5", 2 + 141 + 3 + 70 + 1 + 141 + 3 + 70);
+        Checks.define(x, "A=x=1;B=");
+        due("alternatives behind alternatives", Checks.pattern(x, "(B|B|B|B|B|B)") > 0 ? x.ways(3) : 0, 6);
+        due("four times", Checks.pattern(x, "(B|B|B|B|B|B){4}") > 0 ? x.ways(0) : 0, 1296);
     }
 
     private static void preferredIsTheFirst() {
@@ -465,6 +473,10 @@ public final class SearchEdgesTest {
             due("both " + none, x.way(none, none), -1);
         }
         due("no WAY", x.way(32, 0), -5);
+        Checks.pattern(x, "AB(C|D)$");
+        due("no WAY, though there is some way to go", x.first(0), -5);
+        due("its first ROW", x.way(0, 0), -5);
+        due("its second ROW", x.way(0, 1), -5);
         Checks.pattern(x, "A??");
         due("a WAY without a ROW", x.way(0, 0), -5);
         RowPatterns without = Checks.rows(1);
@@ -550,6 +562,8 @@ public final class SearchEdgesTest {
             due("both " + none, x.fits(none, none), -1);
         }
         Checks.pattern(x, "AA");
+        due("none of them", x.fits(0, 0), 0);
+        due("none of them", x.fits(32, 32), 0);
         due("one too few", x.fits(0, 1), 0);
         due("just so many", x.fits(0, 2), 1);
         due("one too many", x.fits(0, 3), 0);
