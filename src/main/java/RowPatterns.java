@@ -116,7 +116,7 @@ public final class RowPatterns {
             return STATE;
         }
         sheet.empty();
-        now.parts.write(now.parts.count - 1, sheet, 0);
+        now.parts.write(sheet);
         return sheet.size;
     }
 
@@ -603,8 +603,12 @@ public final class RowPatterns {
             note(elder, YOUNGER, younger);
         }
 
-        /** Writes a part as short as it can be read again. */
-        void write(int part, Text paper, int depth) {
+        /** Writes the whole pattern as short as it can be read again. */
+        void write(Text paper) {
+            writePart(count - 1, paper, 0);
+        }
+
+        private void writePart(int part, Text paper, int depth) {
             if (depth > DEEPEST) {
                 return;
             }
@@ -648,7 +652,7 @@ public final class RowPatterns {
                 if (bracketed) {
                     paper.add('(');
                 }
-                write(child, paper, depth + 1);
+                writePart(child, paper, depth + 1);
                 if (bracketed) {
                     paper.add(')');
                 }
