@@ -1,3 +1,4 @@
+import java.io.IOException;
 import java.nio.file.Files;
 import java.nio.file.Path;
 import java.util.ArrayList;
@@ -143,8 +144,16 @@ public final class LanguageTest {
         return reaches(method, method, new HashSet<>());
     }
 
-    /** Rule 8: what recurs is a private static method that calls itself, or private methods that call one another. */
-    private void recursionIsPrivate() {
+    /** The rule that the checks behind this are for; it must stand in ../shared/LANGUAGE.md word for word. */
+    private static void says(String words) throws IOException {
+        Path rules = Path.of("../shared/LANGUAGE.md");
+        if (Files.exists(rules)) {
+            Checks.truth("LANGUAGE.md says: " + words, Files.readString(rules).contains(words));
+        }
+    }
+
+    private void recursionIsPrivate() throws IOException {
+        says("8. Recursion: a private static method that calls itself, private methods that call one another,");
         int recurring = 0;
         for (Method method : methods) {
             if (recurs(method)) {
@@ -155,16 +164,16 @@ public final class LanguageTest {
         Checks.truth("readers and the speller recur", recurring >= 8);
     }
 
-    /** Rule 11: some sixty lines, at most seven parameters. */
-    private void methodsAreShort() {
+    private void methodsAreShort() throws IOException {
+        says("11. A method takes at most seven parameters. Methods stay short (some sixty lines),");
         for (Method method : methods) {
             Checks.truth(method + " is short", method.body.split("\n").length <= LINES);
             Checks.truth(method + "'s parameters", method.parameters <= PARAMETERS);
         }
     }
 
-    /** Rule 11: calls that are no recursion go at most eight deep. */
-    private void callsAreNotDeep() {
+    private void callsAreNotDeep() throws IOException {
+        says("calls that are no recursion go at most eight deep");
         int deepest = 0;
         for (Method method : methods) {
             deepest = Math.max(deepest, depth(method, new HashSet<>()));
